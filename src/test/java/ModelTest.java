@@ -93,7 +93,7 @@ public final class ModelTest {
     private int land() {
         int zone = spread == 24 ? near(23) : near(spread);
         int belt = near(6);
-        int listeners = random.nextInt(3) == 0 ? 50 : 1 + near(9999);
+        int listeners = random.nextInt(2) == 0 ? 50 + random.nextInt(5) : 1 + near(9999);
         Due.is(run + "ground", x.ground(zone, belt, listeners), y.ground(zone, belt, listeners));
         return 1;
     }

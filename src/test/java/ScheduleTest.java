@@ -119,6 +119,25 @@ public final class ScheduleTest {
         slots("programme 0", x, 0, 0, 0, 0, 2, 21);
         slots("programme 1", x, 0, 1, -1, -1, -1, 0);
         slots("programme 2", x, 0, 2, 1, 0, 0, 29);
+        oneMoreListener();
+    }
+
+    /** One listener more outweighs the greatest STRENGTHS together. */
+    private static void oneMoreListener() {
+        WaveHouse x = house(9, 9, 9, 9, 9, 9);
+        x.ground(5, 3, 101);
+        x.cell(0, Houses.noon(0), 99);
+        x.cell(0, (x.sun(true, 0, 0, 12) * 3 + x.sun(false, 1, 0, 12)) * 30 + 6, 1);
+        for (int p = 0; p < 5; p++) {
+            x.programme(0, 12, 13);
+        }
+        for (int p = 0; p < 5; p++) {
+            x.programme(1, 12, 13);
+        }
+        Due.is("five far, one near", x.schedule(0, 0), 5 * 101 + 100);
+        for (int p = 0; p < 10; p++) {
+            Due.is("strength of " + p, x.slot(12, p, 3), p == 0 ? 108 : p < 5 ? 0 : 10);
+        }
     }
 
     /** MAST 1 alone reaches LAND 1 at HOUR 12: then LAND 0 has to take the weaker one, or none. */

@@ -2,7 +2,9 @@
 public final class TreatyTest {
     public static void main(String[] args) {
         tokens();
+        textsEnds();
         grammar();
+        everyTokenBehindEach();
         room();
         wrongDays();
         meaning();
@@ -36,6 +38,12 @@ public final class TreatyTest {
         due("we yield if band !1;", 1, 17);
         due("we yield if band < = 1;", 1, 19);
         due("we yield if band > 1;", 1, 17);
+        due("we yieldz;", 1, 3);
+        due("we yieldazby;", 1, 3);
+        due("we yield`;", 1, 8);
+        due("we yield{;", 1, 8);
+        due("we yield/;", 1, 8);
+        due("we yield:;", 1, 8);
         due("we yield\u000b;", 1, 8);
         due("we yield\u0000;", 1, 8);
         due("we yield\u00a0;", 1, 8);
@@ -44,6 +52,43 @@ public final class TreatyTest {
         due("we yield;=", 1, 9);
         due("we yield;!", 1, 9);
         fine("we yield if notice<since;");
+    }
+
+    /** What the tape had behind its end does not count, and a full one has nothing behind it. */
+    private static void textsEnds() {
+        String[] texts = {"we yield until 12", "we yield if 1 <=", "we yield if 1 ==", "we yieldd", "we yield ;;", "we yield if 1 !="};
+        int[][] due = {{1, 16}, {1, 15}, {1, 14}, {1, 8}, {0, -1}, {1, 14}};
+        for (int k = 0; k < texts.length; k++) {
+            WaveHouse x = new WaveHouse();
+            Houses.type(x, texts[k]);
+            x.back(1);
+            Due.is("read() of '" + texts[k] + "' but one", x.read(), due[k][0]);
+            Due.is("place() in '" + texts[k] + "' but one", x.place(), due[k][1]);
+        }
+        String[] ends = {"we yield if 1 <", "we yield if 1 =", "we yield until 1", "we yield", "we yield;", "we yield; ", "#"};
+        int[][] atEnd = {{1, 2000}, {1, 1999}, {1, 2000}, {1, 2000}, {0, -1}, {0, -1}, {1, 1999}};
+        for (int k = 0; k < ends.length; k++) {
+            due(" ".repeat(2000 - ends[k].length()) + ends[k], atEnd[k][0], atEnd[k][1]);
+        }
+        due("we".repeat(1000), 1, 0);
+        due("1".repeat(2000), 1, 0);
+    }
+
+    private static void everyTokenBehindEach() {
+        String[] starts = {"", "we", "we yield", "they yield from", "we yield from 1", "we yield until", "we yield from 1 until 2",
+            "we yield until 2", "we yield if", "we yield if 1", "we yield if (", "we yield if (band", "we yield if (1)",
+            "we yield if 1 +", "we yield if 1 *", "we yield if 1 -", "we yield if 1 ==", "we yield if 1 == 2", "we yield if 1 < (2",
+            "we yield if 1 < (2)", "we yield if 1 < 2 and", "we yield if 1 < 2 and 3", "we yield if 1 < 2 and 3 <= day", "we yield;"};
+        String tokens = "we they yield from until if and band hour day land aim power since notice ; + - * == != < <= ( ) 0 9999 99999"
+            + " = ! > >= , word wordword wordwords # we; \u00ff";
+        for (String start : starts) {
+            for (String token : tokens.split(" ")) {
+                String text = start + " " + token;
+                TextModel model = new TextModel(text.chars().boxed().toList());
+                due(text, model.fault, model.place);
+                Due.is("a fault in '" + text + "'", model.fault != 0 || text.endsWith(";"), true);
+            }
+        }
     }
 
     private static void grammar() {
@@ -171,6 +216,11 @@ public final class TreatyTest {
         holds("0 < 1024 * 1024 * 2048 - 1", true);
         holds("(0 - 1024 * 1024 * 2048) < 0", true);
         holds("1024 * 1024 * 4096 == 0", true);
+        String deep = "1+2*(".repeat(6) + "1+2*3" + ")".repeat(6);
+        holds("512 - 1 == " + deep, true);
+        holds(deep + " == 512 - 1", true);
+        holds(deep + " == " + deep, true);
+        holds(deep + " < " + deep + " + 1", true);
         holds("((((((band)))))) * ((((((hour)))))) == 15", true);
     }
 
