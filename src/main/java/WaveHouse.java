@@ -241,7 +241,7 @@ public final class WaveHouse {
         int total = 0;
         for (int hour = 0; hour < HOURS; hour++) {
             offerAll(day, hour, n);
-            pairing.solve(programmes.size, masts.size);
+            pairing.solve(masts.size);
             settle(hour);
             total += plan.listenersIn(hour);
         }
@@ -1126,7 +1126,7 @@ public final class WaveHouse {
         private void takeUnit(int kind) {
             if (kind == OPEN) {
                 nested++;
-                await(OPEN);
+                putOff(OPEN);
             } else {
                 draft.addStep(kind, scanner.value);
             }
@@ -1141,11 +1141,11 @@ public final class WaveHouse {
                 related = false;
             } else if (kind != SEMICOLON) {
                 related = related || isRelation(kind);
-                await(kind);
+                putOff(kind);
             }
         }
 
-        private void await(int kind) {
+        private void putOff(int kind) {
             if (waitingCount < WAITING) {
                 waiting[waitingCount] = kind;
                 waitingCount++;
@@ -1181,69 +1181,74 @@ public final class WaveHouse {
         private final int[] gains = new int[MAX_PROGRAMMES * MAX_MASTS];
         private final int[] bands = new int[MAX_PROGRAMMES * MAX_MASTS];
         private final int[] strengths = new int[MAX_PROGRAMMES * MAX_MASTS];
-        /** By PROGRAMME and set of MASTS in use: what it and those behind it gain at most. */
-        private final int[] most = new int[(MAX_PROGRAMMES + 1) << MAX_MASTS];
         private final int[] mastFor = new int[MAX_PROGRAMMES];
-        private int offers = 0;
+        /** The PROGRAMMES that some MAST FITS, in their order: the others need not be weighed. */
+        private final int[] asking = new int[MAX_PROGRAMMES];
+        private int askingCount = 0;
+        /** By place in asking and set of MASTS in use: what that PROGRAMME and those behind it gain at most. */
+        private final int[] most = new int[(MAX_PROGRAMMES + 1) << MAX_MASTS];
 
         void renew() {
             Arrays.fill(gains, 0);
             Arrays.fill(mastFor, NONE);
-            offers = 0;
+            askingCount = 0;
         }
 
+        /** Offers come PROGRAMME by PROGRAMME. */
         void offer(int p, int m, int band, int strength, int listeners) {
             int i = p * MAX_MASTS + m;
             gains[i] = listeners * LISTENER + strength;
             bands[i] = band;
             strengths[i] = strength;
-            offers++;
+            boolean asked = askingCount > 0 && asking[askingCount - 1] == p;
+            if (!asked && askingCount < MAX_PROGRAMMES) {
+                asking[askingCount] = p;
+                askingCount++;
+            }
         }
 
-        void solve(int programmes, int masts) {
-            if (offers == 0) {
-                return;
-            }
+        void solve(int masts) {
             int sets = 1 << masts;
             for (int used = 0; used < sets; used++) {
-                most[(programmes << MAX_MASTS) + used] = 0;
+                most[(askingCount << MAX_MASTS) + used] = 0;
             }
-            for (int p = programmes - 1; p >= 0; p--) {
+            for (int a = askingCount - 1; a >= 0; a--) {
                 for (int used = 0; used < sets; used++) {
-                    most[(p << MAX_MASTS) + used] = bestFrom(p, used, masts);
+                    most[(a << MAX_MASTS) + used] = bestFrom(a, used, masts);
                 }
             }
-            choose(programmes, masts);
+            choose(masts);
         }
 
-        private int bestFrom(int p, int used, int masts) {
-            int best = most[((p + 1) << MAX_MASTS) + used];
+        private int bestFrom(int a, int used, int masts) {
+            int best = most[((a + 1) << MAX_MASTS) + used];
             for (int m = 0; m < masts; m++) {
-                best = Math.max(best, gainBy(p, used, m));
+                best = Math.max(best, gainBy(a, used, m));
             }
             return best;
         }
 
-        /** What PROGRAMME p with MAST m and those behind it gain at most; NONE if it can't have it. */
-        private int gainBy(int p, int used, int m) {
-            int gain = gains[p * MAX_MASTS + m];
+        /** What the PROGRAMME with MAST m and those behind it gain at most; NONE if it can't have it. */
+        private int gainBy(int a, int used, int m) {
+            int gain = gains[asking[a] * MAX_MASTS + m];
             if (gain == 0 || (used >> m & 1) == 1) {
                 return NONE;
             }
-            return gain + most[((p + 1) << MAX_MASTS) + (used | 1 << m)];
+            return gain + most[((a + 1) << MAX_MASTS) + (used | 1 << m)];
         }
 
-        private void choose(int programmes, int masts) {
+        /** The least MAST by which nothing is lost, PROGRAMME by PROGRAMME. */
+        private void choose(int masts) {
             int used = 0;
-            for (int p = 0; p < programmes; p++) {
-                int best = most[(p << MAX_MASTS) + used];
-                for (int m = 0; m < masts && mastFor[p] == NONE; m++) {
-                    if (gainBy(p, used, m) == best) {
-                        mastFor[p] = m;
-                    }
+            for (int a = 0; a < askingCount; a++) {
+                int best = most[(a << MAX_MASTS) + used];
+                int chosen = NONE;
+                for (int m = 0; m < masts && chosen == NONE; m++) {
+                    chosen = gainBy(a, used, m) == best ? m : NONE;
                 }
-                if (mastFor[p] != NONE) {
-                    used |= 1 << mastFor[p];
+                if (chosen != NONE) {
+                    mastFor[asking[a]] = chosen;
+                    used |= 1 << chosen;
                 }
             }
         }

@@ -99,5 +99,13 @@ public final class ClashTest {
         Due.is("known by -1", x.yields(0, 2, 0, 100, 6, -1), -1);
         Due.is("fact 1", x.rule(0, 2, 0, 100, 6, 1), -1);
         Due.is("fact -1", x.rule(0, 2, 0, 100, 6, -1), -1);
+        for (int f = 1; f < 300; f++) {
+            x.notice(2, 6, 7, 0, 0);
+        }
+        Due.is("fact 299", x.rule(0, 2, 0, 100, 6, 299), 0);
+        Due.is("fact 300", x.rule(0, 2, 0, 100, 6, 300), -1);
+        Due.is("fact 2 ** 31 - 1", x.rule(0, 2, 0, 100, 6, Integer.MAX_VALUE), -1);
+        Due.is("known by 300", x.yields(0, 2, 0, 100, 6, 300), 0);
+        Due.is("known by 301", x.yields(0, 2, 0, 100, 6, 301), -1);
     }
 }

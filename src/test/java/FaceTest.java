@@ -58,6 +58,9 @@ public final class FaceTest {
         for (Class<?> c : WaveHouse.class.getDeclaredClasses()) {
             Due.is(c.getName() + " is static", Modifier.isStatic(c.getModifiers()), true);
             Due.is(c.getName() + " is private", Modifier.isPrivate(c.getModifiers()), true);
+            for (Method m : c.getDeclaredMethods()) {
+                Due.is(m.getName() + " has a public one's name", FACE.contains(" " + m.getName() + " "), false);
+            }
             for (Field f : c.getDeclaredFields()) {
                 boolean bad = Modifier.isStatic(f.getModifiers()) && !Modifier.isFinal(f.getModifiers());
                 Due.is(f.getName() + " is a static that is not final", bad, false);
