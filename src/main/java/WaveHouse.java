@@ -237,7 +237,7 @@ public final class WaveHouse {
             return NONE;
         }
         learn(n);
-        plan.renew();
+        plan.renew(programmes.size);
         int total = 0;
         for (int hour = 0; hour < HOURS; hour++) {
             offerAll(day, hour, n);
@@ -249,7 +249,7 @@ public final class WaveHouse {
     }
 
     public int slot(int hour, int p, int what) {
-        if (!plan.made || !isHour(hour) || !programmes.has(p)) {
+        if (!isHour(hour) || !plan.hasProgramme(p)) {
             return NONE;
         }
         switch (what) {
@@ -584,10 +584,6 @@ public final class WaveHouse {
             until[size] = behind;
             size++;
             return size - 1;
-        }
-
-        boolean has(int p) {
-            return p >= 0 && p < size;
         }
 
         int landOf(int p) {
@@ -1275,16 +1271,23 @@ public final class WaveHouse {
         private final int[] strengths = new int[HOURS * MAX_PROGRAMMES];
         private final int[] mastAims = new int[HOURS * MAX_MASTS];
         private final int[] listeners = new int[HOURS];
+        /** How many PROGRAMMES were there when it was made: later ones are none of its own. */
+        private int programmes = 0;
         boolean made = false;
 
-        void renew() {
+        void renew(int programmesNow) {
             made = true;
+            programmes = programmesNow;
             Arrays.fill(masts, NONE);
             Arrays.fill(bands, NONE);
             Arrays.fill(aims, NONE);
             Arrays.fill(strengths, 0);
             Arrays.fill(mastAims, NONE);
             Arrays.fill(listeners, 0);
+        }
+
+        boolean hasProgramme(int p) {
+            return p >= 0 && p < programmes;
         }
 
         void put(int hour, int p, int m, int band, int aim, int strength) {

@@ -23,6 +23,7 @@ final class Model {
     private int place = -1;
     private int today = 0;
     private Slot[][] atHand = null;
+    private int programmesAtHand = 0;
 
     int feed(int... words) {
         if (tape.size() + 20 > 2000) {
@@ -268,6 +269,7 @@ final class Model {
             return -1;
         }
         atHand = new Slot[24][10];
+        programmesAtHand = programmes.size();
         int total = 0;
         for (int hour = 0; hour < 24; hour++) {
             Slot[][] options = new Slot[programmes.size()][masts.size()];
@@ -357,7 +359,7 @@ final class Model {
     }
 
     int slot(int hour, int p, int what) {
-        if (atHand == null || !in(hour, 0, 23) || !in(p, 0, programmes.size() - 1) || !in(what, 0, 3)) {
+        if (atHand == null || !in(hour, 0, 23) || !in(p, 0, programmesAtHand - 1) || !in(what, 0, 3)) {
             return -1;
         }
         Slot s = atHand[hour][p];

@@ -222,7 +222,13 @@ public final class ScheduleTest {
         x.schedule(0, 0);
         slots("not there yet", x, 12, 1, -1, -1, -1, -1);
         x.programme(0, 12, 13);
+        slots("none of that schedule", x, 12, 1, -1, -1, -1, -1);
+        slots("none of that schedule", x, 11, 1, -1, -1, -1, -1);
+        x.schedule(3600, 0);
+        slots("the old one is still at hand", x, 12, 1, -1, -1, -1, -1);
+        x.schedule(0, 0);
         slots("without a mast", x, 12, 1, -1, -1, -1, 0);
+        slots("not its hour", x, 11, 1, -1, -1, -1, 0);
         x.mast(0, 9);
         Due.is("both", x.schedule(0, 0), 200);
         slots("now", x, 12, 1, 1, 0, 0, 29);
