@@ -9,8 +9,8 @@ public final class ClashTest {
         Due.end();
     }
 
-    private static WaveHouse house() {
-        WaveHouse x = new WaveHouse();
+    private static House house() {
+        House x = new House();
         x.ground(0, 3, 10);
         x.ground(12, 3, 10);
         x.ground(0, 3, 0);
@@ -20,8 +20,8 @@ public final class ClashTest {
     }
 
     private static void whatClashes() {
-        WaveHouse x = house();
-        Houses.read(x, "we yield;");
+        House x = house();
+        x.readText("we yield;");
         int[][] due = {{2, 0, 100, 5, 0}, {2, 0, 100, 7, 0}, {2, 0, 3599, 6, 0}, {2, 0, 99, 6, -1}, {2, 0, 100, 4, -1},
             {2, 0, 100, 8, -1}, {1, 0, 100, 6, -1}, {2, 1, 100, 6, -1}};
         for (int[] d : due) {
@@ -30,10 +30,10 @@ public final class ClashTest {
             Due.is("rule" + at, x.rule(0, d[0], d[1], d[2], d[3], 0), d[4]);
         }
         Due.is("not yet known", x.yields(0, 2, 0, 100, 6, 0), -1);
-        Houses.read(x, "");
+        x.readText("");
         Due.is("without rules we yield", x.yields(0, 2, 0, 100, 6, 1), 0);
         Due.is("by none", x.rule(0, 2, 0, 100, 6, 0), -1);
-        Houses.read(x, "they yield;");
+        x.readText("they yield;");
         Due.is("they yield", x.yields(0, 2, 0, 100, 6, 1), -1);
         Due.is("by rule 0", x.rule(0, 2, 0, 100, 6, 0), 0);
     }
@@ -43,7 +43,7 @@ public final class ClashTest {
         int[][] due = {{0, 3, 4, 3, 1}, {0, 3, 5, 3, 0}, {0, 3, 2, 5, 1}, {0, 3, 2, 6, 0}, {0, 0, 12, 0, 1}, {0, 0, 12, 3, 1},
             {0, 1, 12, 3, 0}, {0, 6, 9, 6, 1}, {0, 6, 8, 6, 0}, {22, 4, 1, 4, 1}};
         for (int[] d : due) {
-            WaveHouse x = new WaveHouse();
+            House x = new House();
             x.ground(d[0], d[1], 10);
             x.ground(d[2], d[3], 10);
             x.ground(0, 3, 0);
@@ -57,7 +57,7 @@ public final class ClashTest {
     }
 
     private static void firstOfSome() {
-        WaveHouse x = house();
+        House x = house();
         x.report(0, 0, 2, 6, 0);
         x.notice(2, 6, 7, 0, 0);
         x.notice(3, 6, 7, 0, 0);
@@ -66,7 +66,7 @@ public final class ClashTest {
         Due.is("day 99", x.yields(0, 2, 0, 99, 6, 5), 2);
         Due.is("hour 9", x.yields(0, 2, 0, 99, 9, 5), 4);
         Due.is("hour 9, known by 4", x.yields(0, 2, 0, 99, 9, 4), -1);
-        Houses.read(x, "they yield if notice == 0; we yield if notice == 4; they yield;");
+        x.readText("they yield if notice == 0; we yield if notice == 4; they yield;");
         Due.is("the first that we yield to", x.yields(0, 2, 0, 100, 6, 5), 4);
         Due.is("rule for 0", x.rule(0, 2, 0, 100, 6, 0), 0);
         Due.is("rule for 2", x.rule(0, 2, 0, 100, 6, 2), 2);
@@ -76,9 +76,9 @@ public final class ClashTest {
     }
 
     private static void byPower() {
-        WaveHouse x = house();
+        House x = house();
         x.mast(0, 9);
-        Houses.read(x, "we yield if 5 < power; they yield;");
+        x.readText("we yield if 5 < power; they yield;");
         Due.is("mast 0", x.yields(0, 2, 0, 100, 6, 1), -1);
         Due.is("mast 1", x.yields(1, 2, 0, 100, 6, 1), 0);
         Due.is("mast 0", x.rule(0, 2, 0, 100, 6, 0), 1);
@@ -86,8 +86,8 @@ public final class ClashTest {
     }
 
     private static void wrongOnes() {
-        WaveHouse x = house();
-        Houses.read(x, "we yield;");
+        House x = house();
+        x.readText("we yield;");
         int[][] wrong = {{-1, 2, 0, 100, 6, 1}, {1, 2, 0, 100, 6, 1}, {0, -1, 0, 100, 6, 1}, {0, 6, 0, 100, 6, 1},
             {0, 2, -1, 100, 6, 1}, {0, 2, 2, 100, 6, 1}, {0, 2, 0, -1, 6, 1}, {0, 2, 0, 3600, 6, 1}, {0, 2, 0, 100, -1, 1},
             {0, 2, 0, 100, 24, 1}};

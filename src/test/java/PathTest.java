@@ -13,8 +13,8 @@ public final class PathTest {
         Due.end();
     }
 
-    private static WaveHouse house() {
-        WaveHouse x = new WaveHouse();
+    private static House house() {
+        House x = new House();
         x.ground(0, 3, 10);
         x.ground(0, 3, 0);
         x.mast(0, 4);
@@ -23,7 +23,7 @@ public final class PathTest {
 
     /** Every cell once: its index tells the SUN ahead, the SUN where it comes, FAR and BAND. */
     private static void whichCell() {
-        WaveHouse x = new WaveHouse();
+        House x = new House();
         x.ground(8, 3, 10);
         x.ground(20, 1, 10);
         x.ground(3, 5, 10);
@@ -47,10 +47,10 @@ public final class PathTest {
     }
 
     private static void season() {
-        WaveHouse x = house();
+        House x = house();
         for (int s = 0; s < 4; s++) {
             x.sheet(s, 270);
-            x.cell(s, Houses.noon(2), 10 * s);
+            x.cell(s, House.noon(2), 10 * s);
         }
         int[][] due = {{0, 4}, {89, 4}, {90, 14}, {179, 14}, {180, 24}, {270, 34}, {359, 34}, {360, 4}, {3599, 34}};
         for (int[] d : due) {
@@ -59,7 +59,7 @@ public final class PathTest {
     }
 
     private static void means() {
-        WaveHouse x = house();
+        House x = house();
         x.sheet(0, 270);
         x.report(0, 0, 1, 12, 3);
         Due.is("3", x.correction(0, 0, 1, 1), 3);
@@ -83,15 +83,15 @@ public final class PathTest {
         Due.is("other land", x.correction(0, 1, 1, 7), 0);
         Due.is("other site", x.correction(1, 0, 1, 7), 0);
         x.sheet(0, 270);
-        x.cell(0, Houses.noon(1), 99);
+        x.cell(0, House.noon(1), 99);
         x.report(1, 1, 1, 12, -99);
         Due.is("the least", x.correction(1, 1, 1, 8), -198);
     }
 
     private static void toldOnItsDay() {
-        WaveHouse x = house();
+        House x = house();
         x.sheet(1, 270);
-        x.cell(1, Houses.noon(0), 20);
+        x.cell(1, House.noon(0), 20);
         x.report(0, 0, 0, 12, 50);
         x.clock(90);
         x.report(0, 0, 0, 12, 26);
@@ -104,11 +104,11 @@ public final class PathTest {
     }
 
     private static void cellsAsTheyAreNow() {
-        WaveHouse x = house();
+        House x = house();
         x.sheet(0, 270);
         x.report(0, 0, 0, 12, 10);
         Due.is("ahead", x.correction(0, 0, 0, 1), 10);
-        x.cell(0, Houses.noon(0), 4);
+        x.cell(0, House.noon(0), 4);
         Due.is("behind", x.correction(0, 0, 0, 1), 6);
         Due.is("strength", x.strength(0, 0, 0, 0, 12, 1), 14);
         x.sheet(0, -1);
@@ -117,7 +117,7 @@ public final class PathTest {
     }
 
     private static void knownBy() {
-        WaveHouse x = house();
+        House x = house();
         x.sheet(0, 270);
         for (int f = 0; f < 5; f++) {
             x.report(0, 0, 3, 12, f * 10);
@@ -132,7 +132,7 @@ public final class PathTest {
     }
 
     private static void wrongOnes() {
-        WaveHouse x = house();
+        House x = house();
         x.sheet(0, 270);
         int[][] paths = {{-1, 0, 0}, {1, 0, 0}, {0, -1, 0}, {0, 1, 0}, {0, 0, -1}, {0, 0, 6}};
         for (int[] p : paths) {

@@ -9,8 +9,8 @@ public final class PlaceTest {
         Due.end();
     }
 
-    private static WaveHouse house(int zs, int bs, int zl, int bl) {
-        WaveHouse x = new WaveHouse();
+    private static House house(int zs, int bs, int zl, int bl) {
+        House x = new House();
         x.ground(zs, bs, 0);
         x.ground(zl, bl, 1);
         return x;
@@ -29,7 +29,7 @@ public final class PlaceTest {
     }
 
     private static void oneWay(int zs, int bs, int zl, int bl) {
-        WaveHouse x = house(zs, bs, zl, bl);
+        House x = house(zs, bs, zl, bl);
         int steps = 0;
         while ((zs + steps) % 24 != zl && (zs - steps + 24) % 24 != zl) {
             steps++;
@@ -73,7 +73,7 @@ public final class PlaceTest {
     }
 
     private static void wrongWays() {
-        WaveHouse x = house(0, 0, 0, 0);
+        House x = house(0, 0, 0, 0);
         int[][] wrong = {{-1, 0, 0}, {1, 0, 0}, {0, -1, 0}, {0, 1, 0}, {0, 0, -1}, {0, 0, 4}};
         for (int[] w : wrong) {
             Due.is("wrong way", x.way(w[0], w[1], w[2]), -1);
@@ -86,7 +86,7 @@ public final class PlaceTest {
         String other = "000001122222222221100000";
         for (int belt = 0; belt < 7; belt++) {
             for (int zone = 0; zone < 24; zone++) {
-                WaveHouse x = new WaveHouse();
+                House x = new House();
                 x.ground(zone, belt, 0);
                 x.ground(zone, belt, 9);
                 for (int season = 0; season < 4; season++) {
@@ -105,7 +105,7 @@ public final class PlaceTest {
     }
 
     private static void wrongSuns() {
-        WaveHouse x = house(0, 0, 0, 0);
+        House x = house(0, 0, 0, 0);
         x.ground(0, 0, 1);
         int[][] wrong = {{-1, 0, 0}, {2, 0, 0}, {0, -1, 0}, {0, 3600, 0}, {0, 0, -1}, {0, 0, 24}};
         for (int[] w : wrong) {

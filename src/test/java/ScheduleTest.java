@@ -17,8 +17,8 @@ public final class ScheduleTest {
     }
 
     /** LAND 0 with 100 and SITE 0 at one place, in belt 3; every cell of SEASON 0 is there. */
-    private static WaveHouse house(int... powers) {
-        WaveHouse x = new WaveHouse();
+    private static House house(int... powers) {
+        House x = new House();
         x.ground(0, 3, 100);
         x.ground(0, 3, 0);
         for (int power : powers) {
@@ -28,21 +28,21 @@ public final class ScheduleTest {
         return x;
     }
 
-    private static void slots(String when, WaveHouse x, int hour, int p, int... due) {
+    private static void slots(String when, House x, int hour, int p, int... due) {
         for (int what = 0; what < due.length; what++) {
             Due.is(when + " slot(" + hour + ", " + p + ", " + what + ")", x.slot(hour, p, what), due[what]);
         }
     }
 
     private static void atHand() {
-        WaveHouse x = house(5);
+        House x = house(5);
         x.programme(0, 10, 14);
         slots("none at hand", x, 12, 0, -1, -1, -1, -1);
         Due.is("none at hand", x.listeners(12), -1);
         Due.is("not heard", x.schedule(0, 0), 0);
         slots("not heard", x, 12, 0, -1, -1, -1, 0);
         Due.is("not heard", x.listeners(12), 0);
-        x.cell(0, Houses.noon(3), 5);
+        x.cell(0, House.noon(3), 5);
         slots("still the old one", x, 12, 0, -1, -1, -1, 0);
         Due.is("heard at 10", x.schedule(0, 0), 400);
         slots("heard", x, 12, 0, 0, 3, 0, 10);
@@ -52,41 +52,41 @@ public final class ScheduleTest {
         Due.is("listeners(14)", x.listeners(14), 0);
         Due.is("no such day", x.schedule(3600, 0), -1);
         slots("the old one stays", x, 12, 0, 0, 3, 0, 10);
-        x.cell(0, Houses.noon(3), 4);
+        x.cell(0, House.noon(3), 4);
         Due.is("not heard at 9", x.schedule(0, 0), 0);
     }
 
     private static void bands() {
-        WaveHouse x = house(1);
+        House x = house(1);
         x.programme(0, 12, 13);
-        x.cell(0, Houses.noon(1), 20);
-        x.cell(0, Houses.noon(4), 20);
-        x.cell(0, Houses.noon(5), 19);
+        x.cell(0, House.noon(1), 20);
+        x.cell(0, House.noon(4), 20);
+        x.cell(0, House.noon(5), 19);
         x.schedule(0, 0);
         slots("the least of equal ones", x, 12, 0, 0, 1, 0, 21);
-        x.cell(0, Houses.noon(5), 21);
+        x.cell(0, House.noon(5), 21);
         x.schedule(0, 0);
         slots("the greatest", x, 12, 0, 0, 5, 0, 22);
         x.report(0, 0, 5, 12, 0);
         x.schedule(0, 1);
         slots("put right", x, 12, 0, 0, 1, 0, 21);
-        x.sheet(0, Houses.noon(4));
-        x.cell(0, Houses.noon(3), 30);
+        x.sheet(0, House.noon(4));
+        x.cell(0, House.noon(3), 30);
         x.schedule(0, 1);
         slots("a short sheet", x, 12, 0, 0, 3, 0, 31);
     }
 
     /** LAND 0 at the SITE's place (AIM 0), LAND 1 to its east (AIM 2), LAND 2 to its north (AIM 0). */
-    private static WaveHouse threeLands(int... powers) {
-        WaveHouse x = house(powers);
+    private static House threeLands(int... powers) {
+        House x = house(powers);
         x.ground(2, 3, 50);
         x.ground(0, 2, 20);
-        Houses.flat(x, 0, 20);
+        x.flat(0, 20);
         return x;
     }
 
     private static void turning() {
-        WaveHouse x = threeLands(1);
+        House x = threeLands(1);
         x.programme(0, 0, 1);
         x.programme(1, 1, 4);
         x.programme(2, 4, 6);
@@ -102,7 +102,7 @@ public final class ScheduleTest {
 
     /** The HOUR's own listeners are the most, though less is got later. */
     private static void hourByHour() {
-        WaveHouse x = threeLands(1);
+        House x = threeLands(1);
         x.programme(2, 0, 1);
         x.programme(1, 1, 2);
         Due.is("total", x.schedule(0, 0), 20);
@@ -111,7 +111,7 @@ public final class ScheduleTest {
     }
 
     private static void listenersAheadOfStrength() {
-        WaveHouse x = threeLands(1, 9);
+        House x = threeLands(1, 9);
         x.programme(1, 0, 1);
         x.programme(2, 0, 1);
         x.programme(0, 0, 1);
@@ -124,9 +124,9 @@ public final class ScheduleTest {
 
     /** One listener more outweighs the greatest STRENGTHS together. */
     private static void oneMoreListener() {
-        WaveHouse x = house(9, 9, 9, 9, 9, 9);
+        House x = house(9, 9, 9, 9, 9, 9);
         x.ground(5, 3, 101);
-        x.cell(0, Houses.noon(0), 99);
+        x.cell(0, House.noon(0), 99);
         x.cell(0, (x.sun(true, 0, 0, 12) * 3 + x.sun(false, 1, 0, 12)) * 30 + 6, 1);
         for (int p = 0; p < 5; p++) {
             x.programme(0, 12, 13);
@@ -142,26 +142,26 @@ public final class ScheduleTest {
 
     /** MAST 1 alone reaches LAND 1 at HOUR 12: then LAND 0 has to take the weaker one, or none. */
     private static void strengthAheadOfOrder() {
-        WaveHouse x = house(3, 9);
+        House x = house(3, 9);
         x.ground(5, 3, 60);
         x.programme(0, 12, 13);
         x.programme(1, 12, 13);
-        x.cell(0, Houses.noon(0), 30);
+        x.cell(0, House.noon(0), 30);
         x.cell(0, (x.sun(true, 0, 0, 12) * 3 + x.sun(false, 1, 0, 12)) * 30 + 6, 3);
         Due.is("both", x.schedule(0, 0), 160);
         slots("programme 0", x, 12, 0, 0, 0, 0, 33);
         slots("programme 1", x, 12, 1, 1, 0, 2, 12);
-        WaveHouse y = house(3, 9, 5);
+        House y = house(3, 9, 5);
         y.programme(0, 12, 13);
-        y.cell(0, Houses.noon(0), 30);
+        y.cell(0, House.noon(0), 30);
         y.schedule(0, 0);
         slots("the strongest", y, 12, 0, 1, 0, 0, 39);
     }
 
     private static void leastMasts() {
-        WaveHouse x = house(5, 5, 5);
+        House x = house(5, 5, 5);
         x.ground(0, 3, 100);
-        Houses.flat(x, 0, 20);
+        x.flat(0, 20);
         x.programme(1, 0, 1);
         x.programme(0, 0, 2);
         x.programme(1, 0, 1);
@@ -175,10 +175,10 @@ public final class ScheduleTest {
     }
 
     private static void yielding() {
-        WaveHouse x = house(5, 9);
+        House x = house(5, 9);
         x.programme(0, 10, 14);
-        x.cell(0, Houses.noon(2), 30);
-        x.cell(0, Houses.noon(4), 20);
+        x.cell(0, House.noon(2), 30);
+        x.cell(0, House.noon(4), 20);
         x.notice(2, 12, 13, 0, 0);
         x.schedule(0, 1);
         slots("free", x, 11, 0, 1, 2, 0, 39);
@@ -186,21 +186,21 @@ public final class ScheduleTest {
         x.notice(4, 12, 13, 0, 0);
         Due.is("no band left", x.schedule(0, 2), 300);
         slots("no band left", x, 12, 0, -1, -1, -1, 0);
-        Houses.read(x, "they yield if power == 5 and band == 2;");
+        x.readText("they yield if power == 5 and band == 2;");
         Due.is("one is left", x.schedule(0, 2), 400);
         slots("the weaker mast", x, 12, 0, 0, 2, 0, 35);
-        x.cell(0, Houses.noon(0), 1);
+        x.cell(0, House.noon(0), 1);
         x.schedule(0, 2);
         slots("heard by mast 1 at 10", x, 12, 0, 0, 2, 0, 35);
-        Houses.read(x, "");
+        x.readText("");
         x.schedule(0, 2);
         slots("heard by mast 1 at 10", x, 12, 0, 1, 0, 0, 10);
     }
 
     private static void knownBy() {
-        WaveHouse x = house(5);
+        House x = house(5);
         x.programme(0, 12, 13);
-        x.cell(0, Houses.noon(0), 10);
+        x.cell(0, House.noon(0), 10);
         x.report(0, 0, 0, 12, 5);
         x.report(0, 0, 0, 12, 3);
         x.notice(0, 12, 13, 0, 0);
@@ -216,9 +216,9 @@ public final class ScheduleTest {
     }
 
     private static void laterProgramme() {
-        WaveHouse x = house(5);
+        House x = house(5);
         x.programme(0, 12, 13);
-        Houses.flat(x, 0, 20);
+        x.flat(0, 20);
         x.schedule(0, 0);
         slots("not there yet", x, 12, 1, -1, -1, -1, -1);
         x.programme(0, 12, 13);
@@ -235,9 +235,9 @@ public final class ScheduleTest {
     }
 
     private static void wrongOnes() {
-        WaveHouse x = house(5);
+        House x = house(5);
         x.programme(0, 0, 24);
-        Houses.flat(x, 0, 20);
+        x.flat(0, 20);
         Due.is("a whole day", x.schedule(0, 0), 2400);
         int[][] wrong = {{-1, 0, 0}, {24, 0, 0}, {0, -1, 0}, {0, 1, 0}, {0, 0, -1}, {0, 0, 4}, {24, 0, 3}, {0, 1, 3}, {0, 10, 3}};
         for (int[] w : wrong) {
@@ -248,14 +248,14 @@ public final class ScheduleTest {
         Due.is("day -1", x.schedule(-1, 0), -1);
         Due.is("day 3600", x.schedule(3600, 0), -1);
         Due.is("n 1", x.schedule(0, 1), -1);
-        WaveHouse empty = new WaveHouse();
+        House empty = new House();
         Due.is("an empty house", empty.schedule(0, 0), 0);
         Due.is("an empty house", empty.listeners(23), 0);
         Due.is("an empty house", empty.slot(0, 0, 3), -1);
     }
 
     private static void fullHouse() {
-        WaveHouse x = new WaveHouse();
+        House x = new House();
         for (int k = 0; k < 8; k++) {
             x.ground(3 * k, k % 7, 10000);
         }
@@ -265,7 +265,7 @@ public final class ScheduleTest {
         for (int m = 0; m < 6; m++) {
             x.mast(m % 4, 9);
         }
-        Houses.flat(x, 2, 99);
+        x.flat(2, 99);
         for (int p = 0; p < 10; p++) {
             x.programme(p % 8, 0, 24);
         }

@@ -13,14 +13,14 @@ public final class StateTest {
         Due.end();
     }
 
-    private static void counts(String when, WaveHouse x, int... due) {
+    private static void counts(String when, House x, int... due) {
         for (int what = 0; what < due.length; what++) {
             Due.is(when + " count(" + what + ")", x.count(what), due[what]);
         }
     }
 
     private static void newObject() {
-        WaveHouse x = new WaveHouse();
+        House x = new House();
         Due.is("NONE", WaveHouse.NONE, -1);
         counts("new", x, 0, 0, 0, 0, 0, 0, 0, 0);
         Due.is("count(8)", x.count(8), -1);
@@ -39,7 +39,7 @@ public final class StateTest {
     }
 
     private static void grounds() {
-        WaveHouse x = new WaveHouse();
+        House x = new House();
         int[][] wrong = {{-1, 0, 1}, {24, 0, 1}, {0, -1, 1}, {0, 7, 1}, {0, 0, -1}, {0, 0, 10001},
             {24, 0, 0}, {0, 7, 0}, {Integer.MIN_VALUE, 0, 0}, {0, Integer.MAX_VALUE, 0}, {0, 0, Integer.MIN_VALUE}};
         for (int[] w : wrong) {
@@ -58,7 +58,7 @@ public final class StateTest {
     }
 
     private static void masts() {
-        WaveHouse x = new WaveHouse();
+        House x = new House();
         x.ground(0, 0, 0);
         Due.is("no site 1", x.mast(1, 1), -1);
         Due.is("no site -1", x.mast(-1, 1), -1);
@@ -72,7 +72,7 @@ public final class StateTest {
     }
 
     private static void programmes() {
-        WaveHouse x = new WaveHouse();
+        House x = new House();
         x.ground(0, 0, 7);
         int[][] wrong = {{1, 0, 1}, {-1, 0, 1}, {0, -1, 1}, {0, 1, 1}, {0, 2, 1}, {0, 0, 25}, {0, 24, 25}, {0, 24, 24},
             {0, 0, 0}, {0, 0, Integer.MIN_VALUE}, {0, Integer.MAX_VALUE, Integer.MIN_VALUE}};
@@ -87,7 +87,7 @@ public final class StateTest {
     }
 
     private static void sheets() {
-        WaveHouse x = new WaveHouse();
+        House x = new House();
         for (int season : new int[] {-1, 4, Integer.MAX_VALUE}) {
             Due.is("no such season", x.sheet(season, 5), false);
             Due.is("no such season", x.cell(season, 0, 0), false);
@@ -116,27 +116,27 @@ public final class StateTest {
     }
 
     private static void sheetsHoldZeros() {
-        WaveHouse x = new WaveHouse();
+        House x = new House();
         x.ground(0, 3, 10);
         x.ground(0, 3, 0);
         x.mast(0, 4);
         x.sheet(0, 270);
-        x.cell(0, Houses.noon(5), -7);
+        x.cell(0, House.noon(5), -7);
         Due.is("a cell", x.strength(0, 5, 0, 0, 12, 0), -3);
-        x.cell(0, Houses.noon(5), 100);
+        x.cell(0, House.noon(5), 100);
         Due.is("a wrong v changes nothing", x.strength(0, 5, 0, 0, 12, 0), -3);
         x.sheet(0, 271);
         Due.is("a wrong n changes nothing", x.strength(0, 5, 0, 0, 12, 0), -3);
-        x.sheet(0, Houses.noon(5));
+        x.sheet(0, House.noon(5));
         Due.is("one cell too short", x.strength(0, 5, 0, 0, 12, 0), -1000000);
-        x.sheet(0, Houses.noon(5) + 1);
+        x.sheet(0, House.noon(5) + 1);
         Due.is("zeros", x.strength(0, 5, 0, 0, 12, 0), 4);
         x.sheet(0, -1);
         Due.is("missing", x.strength(0, 0, 0, 0, 12, 0), -1000000);
     }
 
     private static void clock() {
-        WaveHouse x = new WaveHouse();
+        House x = new House();
         Due.is("clock(-1)", x.clock(-1), false);
         Due.is("clock(0)", x.clock(0), true);
         Due.is("clock(7)", x.clock(7), true);
@@ -149,7 +149,7 @@ public final class StateTest {
     }
 
     private static void reports() {
-        WaveHouse x = new WaveHouse();
+        House x = new House();
         x.ground(0, 0, 0);
         x.ground(0, 0, 1);
         int[][] wrong = {{-1, 0, 0, 0, 0}, {1, 0, 0, 0, 0}, {0, -1, 0, 0, 0}, {0, 1, 0, 0, 0}, {0, 0, -1, 0, 0},
@@ -163,7 +163,7 @@ public final class StateTest {
     }
 
     private static void notices() {
-        WaveHouse x = new WaveHouse();
+        House x = new House();
         x.ground(0, 0, 1);
         int[][] wrong = {{-1, 0, 1, 0, 0}, {6, 0, 1, 0, 0}, {0, -1, 1, 0, 0}, {0, 1, 1, 0, 0}, {0, 0, 25, 0, 0},
             {0, 0, 1, -1, 0}, {0, 0, 1, 1, 0}, {0, 0, 1, 0, -1}, {0, 0, 1, 0, 3600}, {0, 0, Integer.MIN_VALUE, 0, 0}};
@@ -176,7 +176,7 @@ public final class StateTest {
     }
 
     private static void factsAtMost() {
-        WaveHouse x = new WaveHouse();
+        House x = new House();
         x.ground(0, 0, 0);
         x.ground(0, 0, 1);
         for (int f = 0; f < 300; f++) {

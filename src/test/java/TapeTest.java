@@ -1,7 +1,7 @@
 /** Promises 2 and 3, and what read() does to the tape. */
 public final class TapeTest {
     public static void main(String[] args) {
-        WaveHouse x = new WaveHouse();
+        House x = new House();
         Due.is("back(0) of nothing", x.back(0), 0);
         Due.is("back(1) of nothing", x.back(1), -1);
         for (int i = 1; i <= 100; i++) {
@@ -25,7 +25,7 @@ public final class TapeTest {
 
     /** "we y" "ield" "; we" " yie" "ld;#": a byte that is no TOKEN tells where each one came. */
     private static void order() {
-        WaveHouse x = new WaveHouse();
+        House x = new House();
         x.feed(0x77652079, 0x69656c64, 0x3b207765, 0x20796965, 0x6c643b23);
         Due.is("read", x.read(), 1);
         Due.is("place", x.place(), 19);
@@ -40,13 +40,13 @@ public final class TapeTest {
     }
 
     private static void readEmpties() {
-        WaveHouse x = new WaveHouse();
-        Houses.type(x, "we yield; they yield;");
+        House x = new House();
+        x.type("we yield; they yield;");
         Due.is("bytes", x.count(7), 21);
         Due.is("read", x.read(), 0);
         Due.is("bytes", x.count(7), 0);
         Due.is("rules", x.count(5), 2);
-        Due.is("a fault", Houses.read(x, "we yield; no"), 1);
+        Due.is("a fault", x.readText("we yield; no"), 1);
         Due.is("bytes", x.count(7), 0);
         Due.is("rules are kept", x.count(5), 2);
         Due.is("place", x.place(), 10);

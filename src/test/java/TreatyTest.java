@@ -13,8 +13,8 @@ public final class TreatyTest {
     }
 
     private static void due(String text, int fault, int place) {
-        WaveHouse x = new WaveHouse();
-        Houses.type(x, text);
+        House x = new House();
+        x.type(text);
         Due.is("read() of '" + text + "'", x.read(), fault);
         Due.is("place() in '" + text + "'", x.place(), place);
     }
@@ -59,8 +59,8 @@ public final class TreatyTest {
         String[] texts = {"we yield until 12", "we yield if 1 <=", "we yield if 1 ==", "we yieldd", "we yield ;;", "we yield if 1 !="};
         int[][] due = {{1, 16}, {1, 15}, {1, 14}, {1, 8}, {0, -1}, {1, 14}};
         for (int k = 0; k < texts.length; k++) {
-            WaveHouse x = new WaveHouse();
-            Houses.type(x, texts[k]);
+            House x = new House();
+            x.type(texts[k]);
             x.back(1);
             Due.is("read() of '" + texts[k] + "' but one", x.read(), due[k][0]);
             Due.is("place() in '" + texts[k] + "' but one", x.place(), due[k][1]);
@@ -162,15 +162,15 @@ public final class TreatyTest {
         due("we yield until 0; we yield until;", 1, 32);
         due("we yield until 1; we yield until 000;", 5, 33);
         due("we yield until 0;" + "we yield;".repeat(20), 2, 17 + 9 * 19);
-        WaveHouse x = new WaveHouse();
-        Houses.read(x, "we yield;");
-        Due.is("wrong", Houses.read(x, "we yield; they yield until 0;"), 5);
+        House x = new House();
+        x.readText("we yield;");
+        Due.is("wrong", x.readText("we yield; they yield until 0;"), 5);
         Due.is("rules are kept", x.count(5), 1);
     }
 
     /** LANDS 0 .. 2 near one another, MAST 0 with POWER 7, FACT 0 a REPORT, FACT 1 a NOTICE on BAND 3 for LAND 2. */
-    private static WaveHouse house() {
-        WaveHouse x = new WaveHouse();
+    private static House house() {
+        House x = new House();
         x.ground(0, 3, 1);
         x.ground(1, 3, 1);
         x.ground(2, 3, 1);
@@ -183,8 +183,8 @@ public final class TreatyTest {
 
     /** Whether a REL holds for BAND 3, LAND 1, DAY 200, HOUR 5. */
     private static void holds(String rel, boolean due) {
-        WaveHouse x = house();
-        Due.is("read() if " + rel, Houses.read(x, "they yield if " + rel + ";"), 0);
+        House x = house();
+        Due.is("read() if " + rel, x.readText("they yield if " + rel + ";"), 0);
         Due.is("rule() if " + rel, x.rule(0, 3, 1, 200, 5, 1), due ? 0 : -1);
         Due.is("yields() if " + rel, x.yields(0, 3, 1, 200, 5, 2), due ? -1 : 1);
     }
@@ -232,17 +232,17 @@ public final class TreatyTest {
     }
 
     private static void force() {
-        WaveHouse x = house();
-        Houses.read(x, "they yield from 20 until 30; we yield from 30; they yield if band == 3 and day < 15;");
+        House x = house();
+        x.readText("they yield from 20 until 30; we yield from 30; they yield if band == 3 and day < 15;");
         int[][] due = {{11, 2, -1}, {14, 2, -1}, {15, -1, 1}, {19, -1, 1}, {20, 0, -1}, {29, 0, -1}, {30, 1, 1}, {3599, 1, 1}};
         for (int[] d : due) {
             Due.is("rule() on day " + d[0], x.rule(0, 3, 1, d[0], 5, 1), d[1]);
             Due.is("yields() on day " + d[0], x.yields(0, 3, 1, d[0], 5, 2), d[2]);
         }
-        Houses.read(x, "they yield until 12; we yield;");
+        x.readText("they yield until 12; we yield;");
         Due.is("until alone", x.rule(0, 3, 1, 11, 5, 1), 0);
         Due.is("until alone", x.rule(0, 3, 1, 12, 5, 1), 1);
-        Houses.read(x, "we yield; they yield;");
+        x.readText("we yield; they yield;");
         Due.is("the first", x.rule(0, 3, 1, 12, 5, 1), 0);
         Due.is("the first", x.yields(0, 3, 1, 12, 5, 2), 1);
     }
