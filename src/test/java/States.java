@@ -3,7 +3,7 @@ final class States {
     private States() {
     }
 
-    /** Some of all there is, so that hardly a change would leave every answer as it was: 50 calls. */
+    /** Some of all there is, so that hardly a change would leave every answer as it was: some 40 calls. */
     static House furnished() {
         House x = new House();
         x.ground(0, 3, 100);

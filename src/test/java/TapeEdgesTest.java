@@ -77,8 +77,22 @@ public final class TapeEdgesTest {
         Due.is("then there is room again", x.feed(0, 0, 0, 0, 0), 20);
     }
 
+    /** A furnished house whose tape, with 9 bytes, has got more of them: blanks. */
+    private static House furnishedWith(int bytes) {
+        House x = States.furnished();
+        for (int k = x.count(7); k + 20 <= bytes; k += 20) {
+            x.feed(0x20202020, 0x20202020, 0x20202020, 0x20202020, 0x20202020);
+        }
+        x.back(x.count(7) - (bytes - 20));
+        Due.is("feed up to " + bytes, x.feed(0x20202020, 0x20202020, 0x20202020, 0x20202020, 0x20202020), bytes);
+        return x;
+    }
+
     /** "NONE, and nothing comes, if it would have more than 2,000": from 1,981 on. */
     private static void feedBeyond() {
+        for (int bytes : new int[] {1981, 1999, 2000}) {
+            Refused.none("feed behind " + bytes, () -> furnishedWith(bytes), x -> x.feed(0x23232323, 0, 0, 0, 0));
+        }
         for (int bytes : new int[] {1981, 1985, 1990, 1999, 2000}) {
             House x = tape(100);
             Due.is("back", x.back(2000 - bytes), bytes);
@@ -212,6 +226,11 @@ public final class TapeEdgesTest {
         Due.is("behind a feed", x.place(), 10);
         x.back(3);
         Due.is("behind a back", x.place(), 10);
+        x.back(17);
+        Due.is("behind a back of all", x.place(), 10);
+        x.back(1);
+        Due.is("behind a back that is refused", x.place(), 10);
+        x.feed(0, 0, 0, 0, 0);
         Due.is("asked twice", x.place(), 10);
         x.read();
         Due.is("behind the next read()", x.place(), 0);
